@@ -218,7 +218,6 @@ public final class ReadersRoom {
             return STATE;
         }
         book.comeTo(KEPT, dayOf(now) + inForceNow(K));
-        book.believed = BELIEVED_READ;
         return book.detail;
     }
 
@@ -236,7 +235,6 @@ public final class ReadersRoom {
             return 1;
         }
         book.comeTo(WRONG, shelf);
-        book.believed = BELIEVED_THERE;
         return 0;
     }
 
@@ -249,7 +247,6 @@ public final class ReadersRoom {
             return STATE;
         }
         book.comeTo(BINDER, until);
-        book.believed = BELIEVED_BOUND;
         return 1;
     }
 
@@ -421,7 +418,6 @@ public final class ReadersRoom {
         if (book.kind == ON_SHELF) {
             slip.how = GOES;
             book.comeTo(GOING, f);
-            book.believed = BELIEVED_READ;
             book.goingTill = till;
             book.goingFor = slip;
             return 1;
@@ -865,7 +861,6 @@ public final class ReadersRoom {
         book.goingFor = null;
         book.comeTo(SEAT, slip.reader);
         book.reader = slip.reader;
-        book.believed = BELIEVED_READ;
         if (hads.size() < MOST_HAD) {
             book.had = new Had(book.number, slip.reader, since);
             hads.add(book.had);
@@ -1367,11 +1362,21 @@ public final class ReadersRoom {
         void comeTo(int newKind, int newDetail) {
             kind = newKind;
             detail = newDetail;
+            believed = believedAt(newKind);
         }
 
         void comeHome() {
             comeTo(ON_SHELF, 0);
-            believed = BELIEVED_THERE;
+        }
+
+        /** Nobody knows of a BOOK that is LOST, or that it was put on a WRONG SHELF. */
+        private int believedAt(int newKind) {
+            switch (newKind) {
+                case SEAT: case KEPT: case GOING: return BELIEVED_READ;
+                case BINDER: return BELIEVED_BOUND;
+                case LOST: return believed;
+                default: return BELIEVED_THERE;
+            }
         }
 
         void endHad(int minute) {

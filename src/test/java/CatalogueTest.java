@@ -74,6 +74,16 @@ public final class CatalogueTest {
         marks(x, 2, 9994, 3, 9999);
         marks(x, 2, 9995, 3);
         marks(x, 2, 5, 3, 0);
+        Due.is("today(2, 12, 3)", x.today(2, 12, 3), 2);
+        Due.is("turned() of another MARK", x.turned(2, 10, 3, 0), 15);
+        Due.is("turned() of another minute", x.turned(2, 10, 2, 0), none);
+        x.line(2, 5, 5, -5, none);
+        marks(x, 2, 5, 3, 0);
+        x.line(2, 300, 300, 1, none);
+        x.line(2, 301, 301, 0, none);
+        x.line(1, 300, 300, 0, none);
+        x.line(1, 300, 300, 1, none);
+        marks(x, 1, 300, 3, 301);
         marks(x, 2, 4, 3);
     }
 
