@@ -1646,7 +1646,7 @@ public final class ReadersRoom {
 
         void workOut() {
             begin();
-            least = Integer.MAX_VALUE;
+            least = NO_WAY;
             give(0, 0);
         }
 

@@ -73,7 +73,7 @@ public final class LanguageTest {
         String code = source.replaceAll("(?s)/\\*.*?\\*/", " ").replaceAll("//[^\n]*", " ");
         String[] forbidden = {"\\bthrow\\b", "\\btry\\b", "\\bcatch\\b", "\\bsynchronized\\b", "\\bassert\\b", "->", "::",
             "\\bpackage\\b", "\\bprotected\\b", "\\bequals\\b", "\\bhashCode\\b", "\\btoString\\b", "Exact\\b",
-            "\\bThread\\b", "\\bRandom\\b", "\\brecord\\b", "\\bvar\\b", "\\bdouble\\b", "\\bfloat\\b"};
+            "\\bThread\\b", "MAX_VALUE", "MIN_VALUE", "\\bRandom\\b", "\\brecord\\b", "\\bvar\\b", "\\bdouble\\b", "\\bfloat\\b"};
         for (String word : forbidden) {
             Due.is(word, Pattern.compile(word).matcher(code).find() ? 1 : 0, 0);
         }

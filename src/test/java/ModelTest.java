@@ -1,7 +1,9 @@
-/** All promises: long runs of calls, ReadersRoom held against the plain Model of the document after each call. */
+/** All promises: long runs of calls, ReadersRoom held against the plain Model of the document. */
 public final class ModelTest {
-    private static final int RUNS = 400;
-    private static final int CALLS = 500;
+    private static final int RUNS = 1200;
+    private static final int MOST_CALLS = 512;
+    /** No step takes more calls than these, the digests between them too. */
+    private static final int CALLS_OF_STEP = 96;
     private static final int[] EDGES = {-1, -9, -10, 0, 1, 2, 3, 8, 24, 40, 41, 70, 9999, 10000, 99999, 100000,
         Integer.MAX_VALUE, Integer.MIN_VALUE};
 
@@ -28,9 +30,11 @@ public final class ModelTest {
             for (int b = 0; b < first; b++) {
                 test.makeBook();
             }
-            while (test.pair.calls() < CALLS) {
+            while (test.pair.calls() < MOST_CALLS - CALLS_OF_STEP) {
                 test.step();
             }
+            test.pair.compareDigests();
+            Due.is("more than 512 calls in run " + run, test.pair.calls() > MOST_CALLS ? 1 : 0, 0);
         }
         Due.end("ModelTest");
     }
@@ -244,8 +248,19 @@ public final class ModelTest {
         }
     }
 
+    private void askWhatIsTold() {
+        switch (any(6)) {
+            case 0: pair.call("count", num(10)); break;
+            case 1: pair.call("findings", num(6)); break;
+            case 2: pair.call("finding"); break;
+            case 3: pair.call("moved", num(13)); break;
+            case 4: pair.call("asked"); break;
+            default: pair.call(any(2) == 0 ? "upper" : "lower");
+        }
+    }
+
     private void askOne() {
-        switch (any(25)) {
+        switch (any(30)) {
             case 0: pair.call("told", aBook(), num(5)); break;
             case 1: pair.call("mark", aBook(), num(7)); break;
             case 2: pair.call("has", num(8)); break;
@@ -268,7 +283,7 @@ public final class ModelTest {
             case 19: pair.call("eyes", num(100000)); break;
             case 20: case 21: pair.call("gone", aBook()); break;
             case 22: case 23: pair.call("hands", aBook()); break;
-            default: pair.call(any(2) == 0 ? "count" : "findings", num(10)); break;
+            default: askWhatIsTold();
         }
     }
 }
