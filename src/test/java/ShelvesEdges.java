@@ -11,6 +11,7 @@ final class ShelvesEdges {
         moveRoom();
         moveAlike();
         moveMost();
+        moveMostOnOne();
         moved();
         eye();
         eyes();
@@ -114,6 +115,16 @@ final class ShelvesEdges {
         x.run("lay(2, 0, 0)").none("move(0, 1, 2)").lay(1, 0, 0, 0, 0, 0, 0, 0, 0, 0, 0, 0, 0)
             .run("lay(2, 0, 999)", "lay(2, 7, 999)");
         x.is("move(0, 1, 2)", 198).is("moved(9)", 0).is("moved(10)", 7);
+    }
+
+    private static void moveMostOnOne() {
+        Edge x = Edge.of("45 move: 12 classes on the first SHELF, though there is room behind");
+        x.lay(0, 1, 1, 1, 1, 1, 1, 1, 1, 1, 1, 1, 1).lay(1, 0, 0, 0, 0, 0, 0, 0, 0, 0, 0, 0, 0)
+            .lay(2, 999, 999, 999, 999, 999, 999, 999, 999).is("move(0, 1, 2)", 0);
+        for (int i = 0; i < 12; i++) {
+            x.is("moved(" + i + ")", 0);
+        }
+        x.run("lay(2, 0, 11)").is("move(0, 1, 2)", 1).is("moved(10)", 0).is("moved(11)", 1).none("moved(12)");
     }
 
     private static void moved() {

@@ -322,9 +322,10 @@ final class SlipsEdges {
             .run("book(2, 0, false)").asks(0, 1).asks(0, 2).is("round()", 14).is("roundOf(0)", 0).is("roundOf(1)", 1);
         Edge.of("32 roundOf: the least SUM, though another one is first").run("book(1, 6, false)", "book(2, 0, false)")
             .run("pace(0, 2)").asks(0, 1).asks(0, 2).is("round()", 14).is("roundOf(0)", 1).is("roundOf(1)", 0);
-        Edge.of("33 judge: the shortest first, whatever their numbers").lay(0, 2, 2, 2)
-            .run("book(1, 6, false)", "book(2, 0, false)", "book(3, 3, false)").asks(0, 1).asks(0, 2).asks(0, 3)
-            .is("judge(0)", 4 + 10 + 20).run("pace(2, 9)").is("judge(0)", 4 + 26 + 84);
+        Edge.of("33 judge: the shortest first, whatever their numbers").lay(0, 2, 2, 2, 2)
+            .run("book(1, 4, false)", "book(2, 6, false)", "book(3, 0, false)", "book(4, 3, false)")
+            .asks(0, 1).asks(0, 2).asks(0, 3).asks(0, 4).is("judge(0)", 4 + 10 + 18 + 28)
+            .run("pace(2, 9)").is("judge(0)", 4 + 26 + 66 + 124);
     }
 
     private static void judge() {
